@@ -310,7 +310,7 @@ public final class TypeFlow {
             return classes++;
         }
 
-        /** The TYPE of a CLASS with ARGUMENTS, NONE where it has none: the one there, or a new one. */
+        /** A TYPE, there or new; NONE for each ARGUMENT that the CLASS does not need. FULL. */
         int make(int cls, int a, int b) {
             for (int type = ANY; type < size; type++) {
                 if (ofClass[type] == cls && first[type] == a && second[type] == b) {
@@ -564,7 +564,7 @@ public final class TypeFlow {
         final int[] bound = new int[MOST_VARIABLES];
         int fault = NO_FAULT;
 
-        /** What a class TYPE of the parameters was found alike with: it need not be looked at again. */
+        /** What a class TYPE of the parameters was found alike with, so as not to look again. */
         private final int[] alike = new int[MOST_TYPES];
         /** TYPES of the parameter that are yet to be looked at, and those that came for them. */
         private final int[] wanted = new int[MOST_PAIRS];
