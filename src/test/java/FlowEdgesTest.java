@@ -226,6 +226,33 @@ public final class FlowEdgesTest {
         dueFault("UNLIKE, then BEYOND", x, zipped(x, 7, 7, unlike), UNLIKE);
     }
 
+    private static void eachPuttingAnew() {
+        sentence = "the VARIABLE is bound to it: by each OPERATOR anew";
+        TypeFlow x = some();
+        int wide = x.type(2, 10, 8);
+        int[] rows = {source(x, x.type(2, 15, 12)), source(x, x.type(2, 16, 12)),
+            source(x, x.type(2, x.type(2, ANY, 7), 11))};
+        int[] first = {7, 7, ANY};
+        int[] second = {ANY, 7, 7};
+        int f = x.function(wide, NONE, 10);
+        int g = x.function(x.type(2, V1, V0), NONE, V1);
+        int none = x.function(ANY, NONE, BIT);
+        int[] maps = new int[21];
+        for (int i = 0; i < maps.length; i++) {
+            int by = i % 3 == 0 ? f : i % 3 == 1 ? g : none;
+            maps[i] = x.operator(MAP, rows[i / 3 % 3], 0, by, 0, 0);
+        }
+        due("flow", x.flow(), 24);
+        for (int i = 0; i < maps.length; i++) {
+            int row = i / 3 % 3;
+            int type = x.comes(rows[row]);
+            int[] zero = {first[row], x.about(type, 2), NONE};
+            int[] one = {second[row], x.about(type, 1), NONE};
+            due("VARIABLE 0 of " + i, x.boundTo(maps[i], 0), zero[i % 3]);
+            due("VARIABLE 1 of " + i, x.boundTo(maps[i], 1), one[i % 3]);
+        }
+    }
+
     private static void bounds() {
         sentence = "for VARIABLE 0, then 1, if it is bound and has a BOUND: it GOES FOR that (else"
                 + " BEYOND)";
@@ -286,6 +313,9 @@ public final class FlowEdgesTest {
         dueFault("VARIABLE 1, ahead of it", x, mapped(x, 16, V0, wideTurned), UNBOUND);
         dueFault("VARIABLE 0", x, mapped(x, 16, V1, wide), UNBOUND);
         dueFault("none is bound", x, mapped(x, INT, INT, wide), UNBOUND);
+        for (int result : new int[] {V0, V1, 8, 9}) {
+            dueFault("none is bound, for " + result, x, mapped(x, INT, INT, result), UNBOUND);
+        }
         due("nothing is made", x.count(1), before);
         dueComes("without VARIABLES", x, mapped(x, INT, INT, 14), 14);
         dueComes("a PRIMITIVE", x, mapped(x, INT, INT, BIT), BIT);
@@ -849,6 +879,7 @@ public final class FlowEdgesTest {
         variableParameter();
         classParameter();
         fromTheFirstOn();
+        eachPuttingAnew();
         bounds();
         unbound();
         operatorsAre0To23();

@@ -266,6 +266,25 @@ public final class TypeEdgesTest {
         dueIs("it, of what was there", x, there, pair, ANY, made + 1);
     }
 
+    /** With all TYPES but one in each other, and a VARIABLE in the innermost. */
+    private static void puttingInDeepDown() {
+        sentence = "each VARIABLE in it becomes that one for it, as deep as there are TYPES";
+        for (int variable = V0; variable <= V1; variable++) {
+            TypeFlow x = new TypeFlow();
+            int box = x.classOf(1, ANY);
+            int deep = variable;
+            for (int level = 0; level < 72; level++) {
+                deep = x.type(box, deep, 0);
+            }
+            due("the deepest", deep, 78);
+            int sub = x.type(x.classOf(2, deep), V0, V1);
+            due("the last one", sub, 79);
+            due("itself put in", x.seen(sub, box), deep);
+            due("as ANY", x.seen(sub, 0), ANY);
+            due("nothing is made", x.count(1), 80);
+        }
+    }
+
     private static void seenAs() {
         sentence = "as its own CLASS it is itself; .. SEEN AS that; else none";
         TypeFlow x = new TypeFlow();
@@ -327,7 +346,7 @@ public final class TypeEdgesTest {
     /**
      * CLASSES 1 box (one VARIABLE), 2 pair, 3 leaf, 4 double with the PARENT pair of box of VARIABLE
      * 1 and box of VARIABLE 0, 5 crate with the PARENT double of VARIABLE 0 and leaf, 6 to fill up, 7
-     * fellow with the PARENT double of VARIABLE 0 twice.
+     * fellow with the PARENT double of VARIABLE 0 twice, 8 case with the PARENT box of VARIABLE 0.
      */
     private static TypeFlow roomy() {
         TypeFlow x = new TypeFlow();
@@ -348,6 +367,8 @@ public final class TypeEdgesTest {
         due("double of VARIABLE 0 twice", x.type(4, V0, V0), 15);
         x.classOf(1, 15);
         due("fellow of leaf", x.type(7, 7, 0), 16);
+        x.classOf(1, 8);
+        due("case of leaf", x.type(8, 7, 0), 17);
         return x;
     }
 
@@ -400,6 +421,11 @@ public final class TypeEdgesTest {
             {2, 102, 104}};
         dueNeeds("common of fellow and crate", 6, asideTurned, x -> x.common(16, 14), false);
         due("as ANY alone", roomy().common(14, 16), ANY);
+        // ANY alone is above both: all of the first one, also below the CLASS of both, is ahead.
+        int[][] apart = {{1, 7, NONE}, {4, 13, 7}, {1, 13, NONE}, {2, 100, 102}};
+        dueNeeds("common of case and crate", 4, apart, x -> x.common(17, 14), false);
+        int[][] apartTurned = {{4, 13, 7}, {1, 7, NONE}, {1, 13, NONE}, {2, 101, 102}};
+        dueNeeds("common of crate and case", 4, apartTurned, x -> x.common(14, 17), false);
     }
 
     private static void goesFor() {
@@ -639,7 +665,7 @@ public final class TypeEdgesTest {
         x.operator(2, 0, 0, x.function(V0, NONE, 8), 0, 0);
         due("flow", x.flow(), 1);
         due("FILTER that gives no BIT", x.reason(1), 1);
-        dueIs("what it gave", x, 17, 1, 12, NONE);
+        dueIs("what it gave", x, 18, 1, 12, NONE);
     }
 
     public static void main(String[] args) {
@@ -652,6 +678,7 @@ public final class TypeEdgesTest {
         argumentsAreVariablesOrClassTypes();
         closed();
         puttingIn();
+        puttingInDeepDown();
         seenAs();
         whatIsMadeStays();
         twoUp();
