@@ -10,7 +10,8 @@ import java.util.Random;
  * document alone: trees with texts, recursion and exceptions where TypeFlow has rows of numbers.
  */
 public final class ModelTest {
-    private static final int RUNS = 4000, CALLS = 500, LONGEST_TEXT = 20000;
+    /** With all that is asked at its end, a run has no more calls than the 512 that are promised. */
+    private static final int RUNS = 40000, FEWEST_CALLS = 70, MOST_CALLS = 320, LONGEST_TEXT = 20000;
 
     /** A TYPE as a tree: a leaf ("p0" .. "p3", "v0", "v1"), or a CLASS with parts. */
     private static final class Tree {
@@ -763,7 +764,7 @@ public final class ModelTest {
             kind == 6 ? pickClass(r, m, 2) : r.nextInt(20)};
     }
 
-    private static final int[] WEIGHTS = {2, 6, 2, 3, 4, 24, 1, 10, 0, 0, 0, 2, 0, 5, 5, 4, 2, 1};
+    private static final int[] WEIGHTS = {2, 6, 8, 3, 4, 24, 1, 10, 4, 4, 2, 2, 4, 5, 5, 4, 2, 1};
 
     private static final int[] reasons = new int[9];
     private static final int[] fulls = new int[18];
@@ -786,20 +787,17 @@ public final class ModelTest {
         return want == got;
     }
 
-    /** After a flow() or a call that may make TYPES, all that can be asked is asked. */
-    private static boolean allSame(TypeFlow x, Model m, int call, StringBuilder run) {
-        int keep = run.length();
-        if (call == 7 || call == 6) {
-            for (int op = -1; op <= m.operators.size(); op++) {
-                for (int ask = 8; ask <= 11; ask++) {
-                    if (!isSame(x, m, ask, new int[] {op}, run)) {
-                        return false;
-                    }
-                }
-                if (!isSame(x, m, 12, new int[] {op, 0}, run)
-                        || !isSame(x, m, 12, new int[] {op, 1}, run)) {
+    /** All that can be asked of OPERATORS, and of the TYPES that were made last. */
+    private static boolean allSame(TypeFlow x, Model m, StringBuilder run) {
+        for (int op = -1; op <= m.operators.size(); op++) {
+            for (int ask = 8; ask <= 11; ask++) {
+                if (!isSame(x, m, ask, new int[] {op}, run)) {
                     return false;
                 }
+            }
+            if (!isSame(x, m, 12, new int[] {op, 0}, run)
+                    || !isSame(x, m, 12, new int[] {op, 1}, run)) {
+                return false;
             }
         }
         for (int what = 0; what < 6; what++) {
@@ -815,7 +813,6 @@ public final class ModelTest {
                 }
             }
         }
-        run.setLength(keep);
         return true;
     }
 
@@ -824,28 +821,31 @@ public final class ModelTest {
         TypeFlow x = new TypeFlow();
         Model m = new Model();
         StringBuilder run = new StringBuilder();
+        int calls = FEWEST_CALLS + seed % (MOST_CALLS - FEWEST_CALLS + 1);
         try {
-            for (int made = 0; made < CALLS; made++) {
+            for (int made = 0; made < calls; made++) {
                 int call = pickCall(r, made, WEIGHTS);
                 // Some runs leave much room for what is made, some have little from early on.
-                if (call == 1 && m.types.size() > 30 + seed % 60 && r.nextInt(8) != 0) {
+                if (seed % 3 == 0 && made > 30 && m.types.size() < 70 + seed % 11) {
+                    call = r.nextInt(4) == 0 ? call : 1;
+                } else if (call == 1 && m.types.size() > 30 + seed % 60 && r.nextInt(8) != 0) {
                     call = 7;
-                } else if (call == 4 && seed % 3 == 0 && m.types.size() < 50 + seed % 31) {
-                    call = 1;
                 } else if (call == 5 && m.operators.size() == 24 && r.nextInt(4) != 0) {
                     call = 6;
                 }
                 if (!isSame(x, m, call, pickNumbers(r, m, call), run)) {
                     return false;
                 }
-                if (!allSame(x, m, call, run)) {
-                    return false;
-                }
             }
+            // Some runs end with OPERATORS that no flow() has told of yet.
+            if (r.nextInt(4) != 0 && !isSame(x, m, 7, new int[0], run)) {
+                return false;
+            }
+            return allSame(x, m, run);
         } catch (TooLong grown) {
             tooLong++;
+            return true;
         }
-        return true;
     }
 
     public static void main(String[] args) {
