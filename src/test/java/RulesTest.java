@@ -57,8 +57,12 @@ public final class RulesTest {
                 boolean loose = Modifier.isStatic(modifiers) && !Modifier.isFinal(modifiers);
                 need(!loose, field + " is static, but not final");
             }
+            need(inside.getDeclaredFields().length <= 20, inside + " has too many fields");
             for (Method method : inside.getDeclaredMethods()) {
                 need(method.getParameterCount() <= 7, method + " has too many parameters");
+                for (String taken : FACE) {
+                    need(!taken.startsWith(method.getName() + "("), method + " has a taken name");
+                }
             }
         }
     }
